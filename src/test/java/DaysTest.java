@@ -52,7 +52,10 @@ public final class DaysTest {
         judged(1, 2, 3, 298);
         judged(-1, 2, 3, 299, 24);
         judged(2, 3, 3, 299, 24);
-        Due.is("judge without things", empty().judge(0, 1), 0);
+        HiredToWait x = empty();
+        Due.is("judge without things", x.judge(0, 1), 0);
+        x.thing(0, 0, 0, 0, 5, 0, 0);
+        Due.is("the first thing in the first quarter", x.judge(0, 1), -1);
         Due.is("judge no elements without things", empty().judge(0, 0), -1);
     }
 
@@ -126,8 +129,10 @@ public final class DaysTest {
         Due.is("done, nothing told", x.done(0, 0), 50);
         Due.row(x, 0, 1, 199, 299);
         Due.is("done, none came", x.done(0, 2), 50);
-        Due.is("days", x.status(3), 4);
-        Due.is("takings", x.status(4), 50);
+        Due.row(x, 0, 1, 2, 199);
+        Due.is("done, the first met", x.done(0, 2), 60);
+        Due.is("days", x.status(3), 5);
+        Due.is("takings", x.status(4), 60);
         Due.is("no wages by told days", x.status(5), 0);
         Due.is("no draws by told days", x.status(6), 1);
     }

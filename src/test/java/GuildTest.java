@@ -15,6 +15,7 @@ public final class GuildTest {
         cost();
         costOfKinds();
         guildTakesItems();
+        guildFromNothing();
         guildRefused();
         faults();
         faultsOfNumbers();
@@ -231,6 +232,25 @@ public final class GuildTest {
         Due.row(x, 1, 2, 'h' + (1 << 16), 'o', 'p', 'e', ' ', '3');
         Due.is("of ints all bits", x.guild(1), -6);
         Due.is("of ints all bits: fault", x.fault(), 0);
+    }
+
+    private static void guildFromNothing() {
+        HiredToWait x = new HiredToWait();
+        Due.text(x, 0, "thing 0 0 0 0 0 0 0;waiter 6 0 1 1 9;moves 0 0;thing 9 23 23 9 99 9 20;waiter 0 9 9 24 9");
+        Due.is("the least and the most", x.guild(0), 5);
+        int[] most = {9, 23, 23, 9, 99, 9, 20, 10};
+        for (int what = 0; what < most.length; what++) {
+            Due.is("the least thing", x.thingOf(0, what), what == 7 ? 1 : 0);
+            Due.is("the greatest thing", x.thingOf(1, what), most[what]);
+        }
+        Due.is("the hoper", x.waiterOf(0, 0), 6);
+        Due.is("the hoper's place", x.waiterOf(0, 4), 0);
+        Due.is("the patient one", x.waiterOf(1, 3), 24);
+        HiredToWait y = new HiredToWait();
+        Due.text(y, 0, THING);
+        Due.is("one item", y.guild(0), 1);
+        Due.is("its corner", y.thingOf(0, 0), 4);
+        Due.is("its cases", y.thingOf(0, 7), 6);
     }
 
     private static void guildRefused() {

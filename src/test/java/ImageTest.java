@@ -4,6 +4,7 @@ public final class ImageTest {
         image();
         restore();
         restoreFewer();
+        restoreNobody();
         restoreTwice();
         status();
         Due.end();
@@ -67,15 +68,26 @@ public final class ImageTest {
         x.move(0, 8);
         x.show(0, 0);
         x.show(1, 1);
+        x.show(7, 1);
         x.row(2, 0, 3);
         Due.is("restore one", x.restore(), 1);
         Due.is("the shelf of 0 holds him", x.holds(0), 0);
         Due.is("he says where he was", x.says(0, 0), 3);
         Due.is("the shelf of 1 holds nothing", x.holds(1), -1);
+        Due.is("the last shelf of 1 holds nothing", x.holds(7), -1);
         Due.is("nobody says", x.says(1, 0), -3);
         Due.is("a row is kept", x.holds(2), 100);
         x.waiter(1, 0, 1, 1, 4);
         Due.is("nothing is held again", x.holds(1), -1);
+    }
+
+    private static void restoreNobody() {
+        HiredToWait x = new HiredToWait();
+        x.image();
+        x.waiter(0, 0, 1, 1, 3);
+        x.show(0, 0);
+        Due.is("restore nobody", x.restore(), 0);
+        Due.is("the first shelf holds nothing", x.holds(0), -1);
     }
 
     private static void restoreTwice() {

@@ -39,7 +39,9 @@ public final class ShelvesTest {
         Due.is("no elements", x.set(0, 0, 1), -5);
         Due.is("last element", x.set(7, 159, 9), 1);
         Due.is("none behind it", x.set(7, 160, 9), -5);
+        Due.is("first element", x.set(7, 0, 9), 1);
         Due.is("row anew", x.row(7, 2, 160), 1);
+        Due.is("the first is 0 again", x.element(7, 0), 0);
         Due.is("elements are 0 again", x.element(7, 159), 0);
         Due.is("row shelf below", x.row(-1, -1, -1), -1);
         Due.is("row shelf above", x.row(8, 0, 1), -1);

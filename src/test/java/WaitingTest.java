@@ -4,11 +4,13 @@ public final class WaitingTest {
         by();
         stop();
         stopRefused();
+        gains();
         best();
         lookouts();
         rota();
         rotaCantBe();
         posts();
+        postsOfAll();
         seen();
         met();
         runners();
@@ -48,11 +50,11 @@ public final class WaitingTest {
         x.waiter(0, 0, 9, 24, 0);
         Due.is("no stop", x.stop(1, 2, 0), -1);
         Due.is("no gain", x.stop(1, 2, 1), 0);
-        // 3 cases: 8 - 12, then 16 - 20 by the next, then 24 - 24
+        // 3 cases: 8 - 12, then 16 - 20, then 24 - 24
         x.thing(0, 0, 2, 0, 8, 0, 0);
         x.waiter(0, 0, 4, 24, 0);
         Due.is("nothing gained to the end", x.stop(2, 3, 0), -1);
-        // 2 cases, paid 3 at once and 6 at last: 9 - 6, then 18 - 9; worth 6: 6 - 6, 12 - 9
+        // 2 cases: 6 - 6, then 12 - 9
         x.thing(0, 0, 1, 0, 6, 0, 0);
         x.waiter(0, 0, 3, 24, 0);
         Due.is("stop at last", x.stop(3, 4, 0), 1);
@@ -69,37 +71,30 @@ public final class WaitingTest {
         Due.is("stop nobody below", x.stop(0, -1, 0), -11);
         Due.is("stop another what", x.stop(0, 0, 2), -15);
         Due.is("stop what below", x.stop(0, 0, -1), -15);
-        Due.is("stop of several the first", x.stop(0, 0, 0), 0);
+        Due.is("stop, nothing refused", x.stop(0, 0, 0), 0);
         Due.refused(x, 4, 0, 0, 0, 2, 0, 0);
-        // after 1 quarter 2 * 6 - 12, after 2 the same gain: the first of the greatest counts
-        HiredToWait y = new HiredToWait();
-        y.thing(0, 0, 1, 1, 5, 0, 0);
-        y.waiter(0, 0, 1, 24, 0);
-        y.thing(0, 0, 1, 2, 3, 0, 0);
-        // 4 cases: 3 - 4, 6 - 7
-        Due.is("never worth it", y.stop(1, 0, 1), 0);
-        y.thing(0, 0, 1, 2, 5, 0, 0);
-        // 4 cases: 5 - 4, 10 - 7
-        Due.is("worth it", y.stop(2, 0, 1), 3);
-        y.thing(0, 4, 8, 1, 5, 0, 0);
-        y.waiter(0, 0, 1, 24, 0);
-        // 6 cases: gain grows by 5 less those still open: 5, 4, 3, 2: always, to the end
-        Due.is("to the end", y.stop(3, 0, 0), 8);
-        y.thing(0, 4, 8, 0, 4, 0, 0);
-        // 5 cases: 4 - 5 = -1, then 4 less 4: -1, less 3: 0, less 2: 2, less 1: 5
-        Due.is("late gain", y.stop(4, 0, 1), 5);
-        y.thing(0, 4, 5, 3, 8, 0, 0);
-        y.waiter(0, 0, 2, 24, 0);
-        // 5 cases: 8 - 10, then 8 less 8 more: -2 both
-        Due.is("never above 0", y.stop(5, 2, 0), -1);
-        y.thing(0, 4, 5, 3, 12, 0, 0);
-        y.waiter(0, 0, 3, 24, 0);
-        // 5 cases: 12 - 15 = -3, then 12 less 12 more
-        Due.is("not with him", y.stop(6, 3, 0), -1);
-        // an apprentice: 5 cases, the first quarter free: 12, then 12 less 4 times 3: the same
-        y.waiter(4, 1, 3, 24, 0);
-        Due.is("of two quarters alike the first", y.stop(6, 4, 0), 4);
-        Due.is("their gain", y.stop(6, 4, 1), 12);
+    }
+
+    private static void gains() {
+        HiredToWait x = new HiredToWait();
+        x.waiter(0, 0, 1, 24, 0);
+        // 4 cases, 2 of them never: 3 - 4, then 6 - 4 - 3
+        x.thing(0, 0, 1, 2, 3, 0, 0);
+        Due.is("never worth it", x.stop(0, 0, 1), 0);
+        // 5 - 4, then 10 - 4 - 3
+        x.thing(0, 0, 1, 2, 5, 0, 0);
+        Due.is("worth it", x.stop(1, 0, 1), 3);
+        // 6 cases, a quarter costs 1 for each still open: 0, 1, 3, 6, 10
+        x.thing(0, 4, 8, 1, 6, 0, 0);
+        Due.is("worth it to the end", x.stop(2, 0, 0), 8);
+        // 5 cases: -1, -1, 0, 2, 5
+        x.thing(0, 4, 8, 0, 4, 0, 0);
+        Due.is("a late gain", x.stop(3, 0, 1), 5);
+        // 5 cases, the first quarter free: 12, then 12 more less 4 times 3
+        x.thing(0, 4, 5, 3, 12, 0, 0);
+        x.waiter(4, 1, 3, 24, 0);
+        Due.is("of two quarters alike the first", x.stop(4, 1, 0), 4);
+        Due.is("their gain", x.stop(4, 1, 1), 12);
     }
 
     private static void best() {
@@ -197,11 +192,25 @@ public final class WaitingTest {
         Due.refused(x, 0, 0, 0, 0, 2, 0, 0);
     }
 
+    private static void postsOfAll() {
+        HiredToWait x = new HiredToWait();
+        for (int w = 0; w < 6; w++) {
+            x.waiter(0, 0, 1, 1, w);
+            x.thing(w, 0, 0, 0, 0, 0, 0);
+        }
+        Due.is("all are posted", x.posts(0), 6);
+        Due.is("all are posted, bits", x.posts(1), 63);
+    }
+
     private static void seen() {
         HiredToWait x = new HiredToWait();
         x.waiter(1, 0, 1, 1, 5);
         Due.is("seen of nothing", x.seen(0, 0), 0);
         Due.is("stand for nothing", x.seen(0, 1), 0);
+        HiredToWait y = new HiredToWait();
+        y.waiter(0, 0, 1, 1, 5);
+        y.thing(7, 0, 0, 0, 1, 0, 0);
+        Due.is("stand for next to nothing", y.seen(0, 1), 7);
         x.thing(4, 0, 0, 0, 10, 0, 0);
         x.thing(6, 0, 0, 0, 10, 0, 0);
         x.thing(7, 0, 0, 0, 10, 0, 0);
