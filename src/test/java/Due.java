@@ -2,15 +2,25 @@
 final class Due {
     private static int asked = 0;
     private static int wrong = 0;
+    private static String sentence = "";
 
     private Due() {
+    }
+
+    /** The sentence that the answers from now on are about. */
+    static void about(String words) {
+        sentence = words.isEmpty() ? "" : "[" + words + "] ";
+    }
+
+    static int asked() {
+        return asked;
     }
 
     static void is(String call, long got, long want) {
         asked++;
         if (got != want) {
             wrong++;
-            if (wrong <= 40) System.out.println(call + " answered " + got + ", due is " + want);
+            if (wrong <= 40) System.out.println(sentence + call + " answered " + got + ", due is " + want);
         }
     }
 

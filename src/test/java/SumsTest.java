@@ -5,7 +5,7 @@ public final class SumsTest {
     private static final int[] KINDS_SEE = {0, 1, 0, 2, 0, 0, 1};
     private static int drawn = 12345;
 
-    private final HiredToWait x = new HiredToWait();
+    private HiredToWait x = new HiredToWait();
     private final int things = below(9);
     private final int waiters = below(7);
     private final int[][] thing = new int[things][];
@@ -15,11 +15,14 @@ public final class SumsTest {
     public static void main(String[] args) {
         for (int i = 0; i < 400; i++) {
             SumsTest guild = new SumsTest();
+            guild.draw();
             guild.found();
             guild.compareWaits();
             guild.compareRotas();
             guild.comparePosts();
             guild.compareRunners();
+            // anew, since an object is used for 512 calls at most
+            guild.found();
             guild.compareQuarters();
         }
         Due.end();
@@ -30,17 +33,26 @@ public final class SumsTest {
         return (drawn >>> 12) % n;
     }
 
-    private void found() {
-        x.ask(hope);
+    private void draw() {
         for (int t = 0; t < things; t++) {
             int first = below(24);
             int last = first + below(24 - first);
-            thing[t] = new int[] {below(10), first, last, below(10), below(4) == 0 ? 50 : below(100), below(10), below(21)};
+            int worth = below(4) == 0 ? 50 : below(100);
+            thing[t] = new int[] {below(10), first, last, below(10), worth, below(10), below(21)};
+        }
+        for (int w = 0; w < waiters; w++) {
+            waiter[w] = new int[] {below(7), below(10), 1 + below(9), 1 + below(24), below(10)};
+        }
+    }
+
+    private void found() {
+        x = new HiredToWait();
+        x.ask(hope);
+        for (int t = 0; t < things; t++) {
             int[] n = thing[t];
             Due.is("thing", x.thing(n[0], n[1], n[2], n[3], n[4], n[5], n[6]), t);
         }
         for (int w = 0; w < waiters; w++) {
-            waiter[w] = new int[] {below(7), below(10), 1 + below(9), 1 + below(24), below(10)};
             int[] n = waiter[w];
             Due.is("waiter", x.waiter(n[0], n[1], n[2], n[3], n[4]), w);
         }
