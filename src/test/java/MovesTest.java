@@ -1,10 +1,5 @@
-import java.util.ArrayList;
-import java.util.List;
-
 /** Promises 34 and 35: the moves, against the same bodies written as Java's own classes. */
 public final class MovesTest {
-    private static final List<Integer> RAN = new ArrayList<>();
-
     public static void main(String[] args) {
         byHand();
         asJavaHasIt();
@@ -48,21 +43,16 @@ public final class MovesTest {
             }
             for (int m = 0; m < 6; m++) {
                 for (int move = 0; move < 3; move++) {
-                    compare(x, man((m + shift) % 7, m, m + 3), move, told[(m + move + shift) % told.length]);
+                    compare(x, (m + shift) % 7, m, move, told[(m + move + shift) % told.length]);
                 }
             }
         }
     }
 
-    private static void compare(HiredToWait x, Man man, int move, int v) {
-        RAN.clear();
-        int due = move == 0 ? man.waits(v) : move == 1 ? man.looks(v) : man.sends(v);
-        Due.is("act(" + man.m + ", " + move + ", " + v + ")", x.act(man.m, move, v), due);
-        int[] bodies = new int[RAN.size()];
-        for (int i = 0; i < bodies.length; i++) {
-            bodies[i] = RAN.get(i);
-        }
-        traced(x, bodies);
+    private static void compare(HiredToWait x, int kind, int m, int move, int v) {
+        int due = Men.moves(kind, m, m + 3, move, v);
+        Due.is("act(" + m + ", " + move + ", " + v + ")", x.act(m, move, v), due);
+        traced(x, Men.RAN.stream().mapToInt(Integer::intValue).toArray());
     }
 
     private static void refused() {
@@ -77,118 +67,5 @@ public final class MovesTest {
             Due.is("no bodies", x.status(7), 0);
         }
         Due.refused(x, 0, 0, 0, 0, 0, 0, 0);
-    }
-
-    private static Man man(int kind, int m, int k) {
-        switch (kind) {
-            case 0: return new Man(m, k);
-            case 1: return new Master(m, k);
-            case 2: return new Lover(m, k);
-            case 3: return new Endless(m, k);
-            case 4: return new Apprentice(m, k);
-            case 5: return new Reliever(m, k);
-            default: return new Hoper(m, k);
-        }
-    }
-
-    private static class Man {
-        final int m;
-        final int k;
-
-        Man(int m, int k) {
-            this.m = m;
-            this.k = k;
-        }
-
-        int waits(int x) {
-            RAN.add(10);
-            return x + m;
-        }
-
-        int looks(int x) {
-            RAN.add(11);
-            return waits(x) * 2;
-        }
-
-        int sends(int x) {
-            RAN.add(12);
-            return looks(x) ^ waits(x - k);
-        }
-    }
-
-    private static class Master extends Man {
-        Master(int m, int k) {
-            super(m, k);
-        }
-
-        @Override int waits(int x) {
-            RAN.add(20);
-            return super.waits(x) + k;
-        }
-    }
-
-    private static class Lover extends Man {
-        Lover(int m, int k) {
-            super(m, k);
-        }
-
-        @Override int looks(int x) {
-            RAN.add(30);
-            return super.looks(x) * 3;
-        }
-    }
-
-    private static final class Endless extends Master {
-        Endless(int m, int k) {
-            super(m, k);
-        }
-
-        @Override int waits(int x) {
-            RAN.add(40);
-            return super.waits(x + 1);
-        }
-    }
-
-    private static class Apprentice extends Man {
-        Apprentice(int m, int k) {
-            super(m, k);
-        }
-
-        @Override int sends(int x) {
-            RAN.add(50);
-            return -super.sends(x);
-        }
-
-        @Override int waits(int x) {
-            RAN.add(51);
-            return super.waits(x) - m;
-        }
-    }
-
-    private static final class Reliever extends Lover {
-        Reliever(int m, int k) {
-            super(m, k);
-        }
-
-        @Override int sends(int x) {
-            RAN.add(60);
-            return super.sends(x) ^ 5;
-        }
-    }
-
-    private static final class Hoper extends Apprentice {
-        Hoper(int m, int k) {
-            super(m, k);
-        }
-
-        @Override int waits(int x) {
-            RAN.add(70);
-            return super.waits(x) * 2;
-        }
-
-        @Override int looks(int x) {
-            RAN.add(71);
-            return super.looks(x - k);
-        }
     }
 }
